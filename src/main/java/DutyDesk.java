@@ -30,6 +30,7 @@ public final class DutyDesk {
     private static final int WINDOW = 30;
     private static final int PLAN_NIGHTS = 4;
     private static final int LINES = 5;
+    private static final int CAP_LINE = 4;
 
     // What a text tells, numbered as rule() asks for it.
     private static final int REACH = 0;
@@ -1081,6 +1082,13 @@ public final class DutyDesk {
         }
 
         private int lineDue(int[] text, int number) {
+            if (number < CAP_LINE) {
+                return lineBeforeCap(text, number);
+            }
+            return Math.min(0, text[CAP] - sumBeforeCap(text));
+        }
+
+        private int lineBeforeCap(int[] text, int number) {
             switch (number) {
                 case 0:
                     return wasDuty ? text[NIGHT] : 0;
@@ -1088,17 +1096,15 @@ public final class DutyDesk {
                     return text[CALL];
                 case 2:
                     return text[MINUTE] * minutesThere * 2;
-                case 3:
-                    return isLate(text) ? -text[LATE] : 0;
                 default:
-                    return Math.min(0, text[CAP] - sumBeforeCap(text));
+                    return isLate(text) ? -text[LATE] : 0;
             }
         }
 
         private int sumBeforeCap(int[] text) {
             int sum = 0;
-            for (int n = 0; n < LINES - 1; n++) {
-                sum += lineDue(text, n);
+            for (int n = 0; n < CAP_LINE; n++) {
+                sum += lineBeforeCap(text, n);
             }
             return sum;
         }
