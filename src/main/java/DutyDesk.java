@@ -61,6 +61,7 @@ public final class DutyDesk {
     /** A text without lines, in the order of the numbers above. */
     private static final int[] PLAIN_TEXT = {45, 10, 1, 8, 100, 60, 1, 20, 400, 0, 0, NONE};
 
+    private final Reader reader;
     private final Statutes statutes;
     private final People people;
     private final Nights nights;
@@ -68,6 +69,7 @@ public final class DutyDesk {
     private final Calls calls;
 
     public DutyDesk() {
+        reader = new Reader();
         statutes = new Statutes();
         people = new People();
         nights = new Nights(people, statutes);
@@ -76,22 +78,22 @@ public final class DutyDesk {
     }
 
     public int feed(int a, int b, int c, int d, int e) {
-        if (statutes.length + FEED_BYTES > MAX_BYTES) {
+        if (reader.length + FEED_BYTES > MAX_BYTES) {
             return FULL;
         }
-        statutes.append(a);
-        statutes.append(b);
-        statutes.append(c);
-        statutes.append(d);
-        statutes.append(e);
-        return statutes.length;
+        reader.append(a);
+        reader.append(b);
+        reader.append(c);
+        reader.append(d);
+        reader.append(e);
+        return reader.length;
     }
 
     public int end(int n) {
-        if (n < 0 || n > statutes.length) {
+        if (n < 0 || n > reader.length) {
             return NONE;
         }
-        statutes.length = n;
+        reader.length = n;
         return n;
     }
 
@@ -161,17 +163,20 @@ public final class DutyDesk {
 
     public int edition(int day) {
         if (!isBelow(day, DAYS)) {
-            statutes.length = 0;
+            reader.length = 0;
             return RANGE;
         }
-        return statutes.readTape(day);
+        if (!reader.readTape()) {
+            return NONE;
+        }
+        return statutes.size < MAX_EDITIONS ? statutes.add(reader.text, day) : FULL;
     }
 
     public int fault(int what) {
         if (what == 0) {
-            return statutes.reader.faultKind;
+            return reader.faultKind;
         }
-        return what == 1 ? statutes.reader.faultPlace : NONE;
+        return what == 1 ? reader.faultPlace : NONE;
     }
 
     public int inForce(int day, int k) {
@@ -366,7 +371,7 @@ public final class DutyDesk {
             case 3:
                 return nights.allDuties();
             case 4:
-                return statutes.length;
+                return reader.length;
             case 5:
                 return calls.inState(ASKING);
             case 6:
@@ -386,31 +391,13 @@ public final class DutyDesk {
         return (bits >> bit & 1) == 1;
     }
 
-    /** THE TAPE, and the EDITIONS that were read from it. */
+    /** The EDITIONS. */
     private static final class Statutes {
-        private final byte[] tape = new byte[MAX_BYTES];
-        private int length;
-        private final Reader reader = new Reader(tape);
         private final int[][] texts = new int[MAX_EDITIONS][RULES];
         private int size;
 
-        private void append(int four) {
-            for (int shift = 24; shift >= 0 && length < MAX_BYTES; shift -= 8) {
-                tape[length] = (byte) (four >> shift);
-                length++;
-            }
-        }
-
-        private int readTape(int day) {
-            boolean faultless = reader.readText(length);
-            length = 0;
-            if (!faultless) {
-                return NONE;
-            }
-            if (size >= MAX_EDITIONS) {
-                return FULL;
-            }
-            System.arraycopy(reader.text, 0, texts[size], 0, RULES);
+        private int add(int[] text, int day) {
+            System.arraycopy(text, 0, texts[size], 0, RULES);
             texts[size][FIRST_DAY] = day;
             size++;
             return size - 1;
@@ -446,7 +433,7 @@ public final class DutyDesk {
         }
     }
 
-    /** Reads a text token by token; it keeps what the latest one told, or its FAULT. */
+    /** THE TAPE, read token by token; it keeps what the latest text told, or its FAULT. */
     private static final class Reader {
         private static final int SYNTAX = 1;
         private static final int BOUNDS = 2;
@@ -468,9 +455,9 @@ public final class DutyDesk {
         private static final int ORDERS = 3;
         private static final int BAR_WORDS = 3;
 
-        private final byte[] tape;
-        private final int[] text = new int[RULES];
+        private final byte[] tape = new byte[MAX_BYTES];
         private int length;
+        private final int[] text = new int[RULES];
         private int at;
         private int token;
         private int tokenPlace;
@@ -481,24 +468,28 @@ public final class DutyDesk {
         private int faultKind;
         private int faultPlace = NONE;
 
-        private Reader(byte[] tape) {
-            this.tape = tape;
+        private void append(int four) {
+            for (int shift = 24; shift >= 0 && length < MAX_BYTES; shift -= 8) {
+                tape[length] = (byte) (four >> shift);
+                length++;
+            }
         }
 
-        private boolean readText(int textLength) {
+        /** Reads THE TAPE and empties it: whether the text is without a FAULT. */
+        private boolean readTape() {
             System.arraycopy(PLAIN_TEXT, 0, text, 0, RULES);
-            length = Math.min(textLength, tape.length);
             at = 0;
+            token = NO_TOKEN;
             want = WANT_LINE;
             toldRules = 0;
             faultKind = 0;
             faultPlace = NONE;
-            token = NO_TOKEN;
             // Each token but the end takes a byte at least.
             for (int n = 0; n <= length && token != TEXT_END && faultKind == 0; n++) {
                 nextToken();
                 takeToken();
             }
+            length = 0;
             return faultKind == 0;
         }
 
@@ -833,6 +824,7 @@ public final class DutyDesk {
             return busyDays(l, day - rest, day + rest) == 0 && keepsToMost(l, day, text[MOST]);
         }
 
+        /** Looks at the 30 days in a row that have this night among them: no others get more by it. */
         private boolean keepsToMost(int l, int day, int most) {
             if (duties[l] < most) {
                 return true;

@@ -220,6 +220,12 @@ public final class CallsTest {
         d.due("calls of 2", x.lawyer(2, 5), 1);
         d.due("calls of 0", x.lawyer(0, 5), 1);
         d.due("calls of 1", x.lawyer(1, 5), 0);
+        DutyDesk y = new DutyDesk();
+        y.enter(0, 3, 0);
+        y.enter(0, 3, 0);
+        y.duty(1, 0, 0);
+        y.call(0, 0, 0, 0, -1, 0, 0);
+        asks(d, y, 0, 1, 0);
     }
 
     private static void formerTakerFirst(Due d) {

@@ -107,6 +107,15 @@ public final class NightsTest {
         d.due("day 20: 20 .. 49 has two", x.duty(0, 20, 0), Due.NONE);
         d.due("day 21: 21 .. 50 has three", x.duty(0, 21, 0), Due.STATE);
         d.due("uneven", x.uneven(), 25);
+        DutyDesk y = desk(1, 1);
+        Due.edition(y, 0, "rest 0;most 2;");
+        d.due("day 30", y.duty(0, 30, 0), Due.NONE);
+        d.due("day 59", y.duty(0, 59, 0), Due.NONE);
+        d.due("day 58: 30 .. 59 alone has three", y.duty(0, 58, 0), Due.STATE);
+        d.due("day 30 goes", y.duty(0, 30, -1), 0);
+        d.due("day 58", y.duty(0, 58, 0), Due.NONE);
+        d.due("day 30: 30 .. 59 alone has three", y.duty(0, 30, 0), Due.STATE);
+        d.due("day 29: 29 .. 58 has two", y.duty(0, 29, 0), Due.NONE);
     }
 
     private static void textOfTheNight(Due d) {

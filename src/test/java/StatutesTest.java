@@ -13,6 +13,8 @@ public final class StatutesTest {
         ranges(d);
         full(d);
         inForce(d);
+        cutOff(d);
+        wholeTape(d);
         d.finish();
     }
 
@@ -49,6 +51,13 @@ public final class StatutesTest {
         faulty(d, "ask 1; 7", 1, 7);
         faulty(d, "ask 1;asks 2;", 1, 6);
         faulty(d, "as 1;", 1, 0);
+        faulty(d, "tap 1;", 1, 0);
+        faulty(d, "askz 1;", 1, 0);
+        faulty(d, "zask 1;", 1, 0);
+        faulty(d, "ask{1;", 1, 3);
+        faulty(d, "ask`1;", 1, 3);
+        faulty(d, "ask/1;", 1, 3);
+        faulty(d, "ask:1;", 1, 3);
         faulty(d, "Ask 1;", 1, 0);
         faulty(d, "aSk 1;", 1, 0);
         faulty(d, "ask -1;", 1, 4);
@@ -200,5 +209,33 @@ public final class StatutesTest {
         d.due("k -1", x.inForce(9, -1), Due.RANGE);
         d.due("day 1000", x.inForce(1000, 0), Due.RANGE);
         d.due("day -1", x.inForce(-1, 0), Due.RANGE);
+    }
+
+    /** What lies behind the end is no part of the text, though it was fed. */
+    private static void cutOff(Due d) {
+        DutyDesk x = new DutyDesk();
+        Due.type(x, "cap 12;askx");
+        x.end(10);
+        d.due("edition", x.edition(0), Due.NONE);
+        d.due("a number is missing, not a word", x.fault(1), 10);
+        Due.type(x, "cap 12345;");
+        x.end(8);
+        d.due("edition", x.edition(0), Due.NONE);
+        d.due("the semicolon is missing", x.fault(1), 8);
+        Due.type(x, "cap 12;  ;");
+        x.end(7);
+        d.due("edition", x.edition(0), 0);
+        d.due("cap", x.rule(0, 8), 12);
+    }
+
+    private static void wholeTape(Due d) {
+        String blanks = "                                                  ".repeat(20);
+        String[] ends = {"ask 12;", "ask 12", "ask", "as", "1", " "};
+        int[] places = {-1, 1000, 1000, 998, 999, -1};
+        for (int n = 0; n < ends.length; n++) {
+            faulty(d, blanks.substring(ends[n].length()) + ends[n], places[n] < 0 ? 0 : 1, places[n]);
+        }
+        faulty(d, "x".repeat(1000), 1, 0);
+        faulty(d, "ask " + "1".repeat(996), 1, 4);
     }
 }
