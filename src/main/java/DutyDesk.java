@@ -924,6 +924,8 @@ public final class DutyDesk {
         private static final int SQUARES_SHIFT = PLAN_NIGHTS * DIGIT_BITS;
         private static final int NONES_SHIFT = 44;
         private static final int SETS = 1 << PLAN_NIGHTS;
+        /** Above what any way can cost, and no sum with it wraps around. */
+        private static final long NO_WAY = 1L << 60;
 
         private final People people;
         private final Nights nights;
@@ -936,7 +938,7 @@ public final class DutyDesk {
 
         private int makePlan(int p, int day, int n) {
             giveSet(p, day, allNights(n), NONE);
-            Arrays.fill(least, Long.MAX_VALUE);
+            Arrays.fill(least, NO_WAY);
             least[0] = 0;
             for (int l = 0; l < people.size; l++) {
                 if (people.isOn(l, p)) {
@@ -982,7 +984,7 @@ public final class DutyDesk {
         private void offer(int l, int n, int fits) {
             for (int given = allNights(n); given > 0; given--) {
                 for (int its = 1; its <= given; its++) {
-                    if ((its & given) == its && hasBit(fits, its) && least[given ^ its] != Long.MAX_VALUE) {
+                    if ((its & given) == its && hasBit(fits, its) && least[given ^ its] != NO_WAY) {
                         long cost = least[given ^ its] + costOf(l, its, n);
                         least[given] = Math.min(least[given], cost);
                     }
@@ -1005,9 +1007,9 @@ public final class DutyDesk {
         }
 
         private long leastWay(int n) {
-            long best = Long.MAX_VALUE;
+            long best = NO_WAY;
             for (int given = 0; given <= allNights(n); given++) {
-                if (least[given] != Long.MAX_VALUE) {
+                if (least[given] != NO_WAY) {
                     best = Math.min(best, least[given] + costOfNone(allNights(n) ^ given, n));
                 }
             }

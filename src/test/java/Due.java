@@ -6,18 +6,24 @@ final class Due {
     static final int STATE = DutyDesk.STATE;
 
     private int wrong;
+    private String name = "";
+
+    /** What stands ahead of each wrong answer from here on. */
+    void name(String test) {
+        name = test;
+    }
 
     void due(String call, long got, long want) {
         if (got != want) {
             wrong++;
-            System.out.println(call + " answered " + got + ", due is " + want);
+            System.out.println(name + call + " answered " + got + ", due is " + want);
         }
     }
 
     void holds(String what, boolean is) {
         if (!is) {
             wrong++;
-            System.out.println("not so: " + what);
+            System.out.println(name + "not so: " + what);
         }
     }
 
