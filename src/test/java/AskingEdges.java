@@ -55,6 +55,11 @@ final class AskingEdges {
         x.away(1, 5, true);
         x.call(5, 0, 0, 0, -1, 7, 3);
         d.due("when the latest such may not", x.asked(6), 0);
+        DutyDesk y = Desks.of(3, 1);
+        y.call(5, 0, 0, 0, -1, 7, 3);
+        y.call(5, 0, 0, 0, -1, 7, 3);
+        takenBy(y, 1, 2);
+        d.due("a later one alone is taken", y.answer(0, false), 1);
     }
 
     @Holds(at = "Terms IV", says = "then who has DUTY")
@@ -93,6 +98,12 @@ final class AskingEdges {
         x.duty(1, 997, 0);
         x.call(999, 0, 0, 0, -1, 0, 0);
         asks(d, x, 3, 1, 2, 0);
+        DutyDesk y = Desks.of(24, 3);
+        for (int l = 0; l < 23; l++) {
+            y.duty(1, l, l);
+        }
+        y.call(22, 0, 0, 0, -1, 0, 0);
+        d.due("the last one alone has none", y.asked(0), 23);
     }
 
     @Holds(at = "Terms IV", says = "calls: how many CALLS it has taken")

@@ -149,6 +149,18 @@ final class CallEdges {
         d.due("as known now", x.barred(1, 0), 0);
         x.call(6, 0, 0, 0, -1, 0, 0);
         d.due("the day behind", x.asked(2), Due.NONE);
+        // What a bar would hold against is no matter without that bar.
+        int[] bits = {0, 16, 32, 64, 112};
+        String[] texts = {"", "bar fellow;", "bar against;", "bar town;", "bar town;bar against;bar fellow;"};
+        for (int n = 0; n < texts.length; n++) {
+            DutyDesk y = Desks.of(1, 1);
+            comes(y, 7, 0);
+            y.answer(0, true);
+            comes(y, 7, 1);
+            y.against(0, 7);
+            Due.edition(y, 5, texts[n]);
+            d.due("with '" + texts[n] + "'", y.barred(1, 0), bits[n]);
+        }
     }
 
     private static DutyDesk withAFellow() {

@@ -221,6 +221,8 @@ final class ClaimEdges {
         x.pay(149);
         d.due("148 of 80", x.paid(0), 148 * 80);
         d.due("the last one", x.paid(1), 80);
+        x.pay(0);
+        d.due("and the first", x.paid(0), 149 * 80);
     }
 
     @Holds(at = "Promise 27: paid", says = "; RANGE.")

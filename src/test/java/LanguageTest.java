@@ -5,6 +5,7 @@ import com.sun.source.tree.CompilationUnitTree;
 import com.sun.source.tree.ImportTree;
 import com.sun.source.tree.LambdaExpressionTree;
 import com.sun.source.tree.MemberReferenceTree;
+import com.sun.source.tree.MemberSelectTree;
 import com.sun.source.tree.MethodInvocationTree;
 import com.sun.source.tree.MethodTree;
 import com.sun.source.tree.NewClassTree;
@@ -27,6 +28,7 @@ import java.util.List;
 import java.util.Map;
 import java.util.Set;
 import javax.lang.model.element.Element;
+import javax.lang.model.element.ElementKind;
 import javax.lang.model.element.ExecutableElement;
 import javax.lang.model.element.Modifier;
 import javax.tools.JavaCompiler;
@@ -125,6 +127,16 @@ public final class LanguageTest extends TreePathScanner<Void, Void> {
             }
         }
         return super.visitMethodInvocation(tree, v);
+    }
+
+    @Override
+    public Void visitMemberSelect(MemberSelectTree tree, Void v) {
+        Element named = trees.getElement(getCurrentPath());
+        if (named != null && named.getKind() == ElementKind.FIELD
+            && String.valueOf(named.getEnclosingElement()).startsWith("java.")) {
+            not(tree, "constant of the library, as " + tree);
+        }
+        return super.visitMemberSelect(tree, v);
     }
 
     @Override

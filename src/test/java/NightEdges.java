@@ -170,21 +170,17 @@ final class NightEdges {
         DutyDesk x = Desks.of(3, 63);
         x.duty(5, 10, 0);
         x.duty(0, 12, 0);
-        x.duty(3, 14, 0);
         x.strike(0, 10);
         d.due("10 goes first", x.onDuty(5, 10), 1);
         d.due("12 goes next", x.onDuty(0, 12), 2);
-        d.due("14 goes last", x.onDuty(3, 14), 1);
         // With what was given ahead of it, 1 rests on the second day.
         DutyDesk y = Desks.under(2, 1, "rest 0;");
         y.duty(0, 10, 0);
         y.duty(0, 11, 0);
-        y.duty(0, 12, 0);
         Due.edition(y, 0, "rest 1;");
-        d.due("three", y.strike(0, 10), 3);
+        d.due("two", y.strike(0, 10), 2);
         d.due("10", y.onDuty(0, 10), 1);
         d.due("11", y.onDuty(0, 11), Due.NONE);
-        d.due("12", y.onDuty(0, 12), 1);
     }
 
     @Holds(at = "Promise 6: strike", says = "each to the LAWYER that MAY with the fewest DUTIES")
@@ -207,6 +203,15 @@ final class NightEdges {
         y.duty(0, 0, 2);
         y.strike(0, 50);
         d.due("1 is not on the panel", y.onDuty(0, 100), 2);
+        DutyDesk z = Desks.of(24, 1);
+        for (int l = 1; l < 23; l++) {
+            z.duty(0, 2 * l, l);
+        }
+        z.duty(0, 100, 1);
+        z.strike(1, 100);
+        d.due("0 has none", z.onDuty(0, 100), 0);
+        z.strike(0, 100);
+        d.due("then 23 has none", z.onDuty(0, 100), 23);
     }
 
     @Holds(at = "Promise 6: strike", says = "(of as many the lesser number)")

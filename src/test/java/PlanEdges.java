@@ -122,6 +122,23 @@ final class PlanEdges {
         row(d, w, 0, 996, 0, 1, 2, 3);
     }
 
+    @Holds(at = "Terms III", says = "the least row of LAWYERS' numbers")
+    static void theLeastRowOfAsEvenOnes(Due d) {
+        // 4 and 3 are as even as 3 and 4, and a row of 0 alone is less than one with 1 at its end.
+        DutyDesk x = Desks.under(2, 3, "rest 0;");
+        x.duty(1, 0, 1);
+        x.duty(1, 500, 1);
+        x.duty(1, 999, 1);
+        d.due("four nights", x.plan(0, 100, 4), 0);
+        row(d, x, 0, 100, 0, 0, 0, 0);
+        d.due("uneven", x.uneven(), 25);
+        // The first night counts most: 0 and 2 is less than 1 and 0.
+        DutyDesk y = Desks.of(3, 1);
+        y.away(1, 11, true);
+        d.due("two nights", y.plan(0, 10, 2), 0);
+        row(d, y, 0, 10, 0, 2);
+    }
+
     @Holds(at = "Promise 15: plan", says = "the PLAN is made, and DUTIES are so: how many of the nights have none")
     static void howManyHaveNone(Due d) {
         for (int n = 1; n <= 4; n++) {

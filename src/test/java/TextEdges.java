@@ -53,6 +53,12 @@ final class TextEdges {
         faulty(d, "bar towns;", SYNTAX, 4);
         faulty(d, "bar tow;", SYNTAX, 4);
         faulty(d, "z".repeat(1000), SYNTAX, 0);
+        // Each letter counts, the first and the last too.
+        for (int n = 0; n < 5; n++) {
+            faulty(d, "reach".substring(0, n) + "z" + "reach".substring(n + 1) + " 1;", SYNTAX, 0);
+            faulty(d, "order calls;".substring(0, 6 + n) + "z" + "order calls;".substring(7 + n), SYNTAX, 6);
+            faulty(d, "bar against;".substring(0, 4 + n) + "z" + "bar against;".substring(5 + n), SYNTAX, 4);
+        }
     }
 
     @Holds(at = "Terms II", says = "NUMBERS (digits, as many as there are, 4 at most)")
