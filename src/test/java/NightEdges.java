@@ -163,6 +163,13 @@ final class NightEdges {
         d.due("none between 9 and 10", x.strike(0, 9), 0);
         d.due("8", x.strike(0, 8), 1);
         d.due("one without", Desks.of(1, 1).strike(0, 0), 0);
+        for (int other = 1; other < 24; other++) {
+            DutyDesk y = Desks.of(24, 63);
+            y.duty(0, 10, 0);
+            y.duty(5, 10, other);
+            d.due("one, beside " + other, y.strike(0, 10), 1);
+            d.due("another panel's of that day stays", y.onDuty(5, 10), other);
+        }
     }
 
     @Holds(at = "Promise 6: strike", says = "which go, one by one by day, then PANEL")
