@@ -1,68 +1,103 @@
+import java.io.IOException;
 import java.lang.reflect.Constructor;
 import java.lang.reflect.Field;
 import java.lang.reflect.Method;
 import java.lang.reflect.Modifier;
-import java.util.Arrays;
+import java.nio.file.Files;
+import java.nio.file.Path;
 import java.util.HashSet;
+import java.util.List;
+import java.util.Map;
 import java.util.Set;
+import java.util.TreeMap;
 import java.util.TreeSet;
+import java.util.regex.Matcher;
+import java.util.regex.Pattern;
 
-/** The public face is the document's, and nothing else of the class can be seen. */
+/** The public face is the one in the document's own block, and nothing else of the class can be seen. */
 public final class FaceTest {
-    private static final String[] METHODS = {
-        "feed(int,int,int,int,int)", "end(int)", "enter(int,int,int)", "away(int,int,boolean)", "strike(int,int)",
-        "travel(int,int,int)", "lawyer(int,int)", "edition(int)", "fault(int)", "inForce(int,int)", "rule(int,int)",
-        "duty(int,int,int)", "onDuty(int,int)", "plan(int,int,int)", "uneven()", "against(int,int)", "waive(int,int)",
-        "call(int,int,int,int,int,int,int)", "asked(int)", "answer(int,boolean)", "told(int,int)", "barred(int,int)",
-        "claim(int,int)", "line(int,int,int)", "pay(int)", "paid(int)", "count(int)"};
+    private static final Class<?> FACE = DutyDesk.class;
+    private static final Pattern METHOD = Pattern.compile("    public int (\\w+)\\((.*)\\);");
+    private static final Pattern CONSTANT = Pattern.compile("    public static final int (\\w+) = (-\\d+);");
+    /** What else stands in the block. */
+    private static final Set<String> OTHERS = Set.of("public final class DutyDesk {", "    public DutyDesk();", "}");
 
-    public static void main(String[] args) {
-        Due d = new Due();
-        Class<?> face = DutyDesk.class;
-        d.holds("the class is public and final", Modifier.isPublic(face.getModifiers()) && Modifier.isFinal(face.getModifiers()));
-        d.due("NONE", DutyDesk.NONE, -1);
-        d.due("RANGE", DutyDesk.RANGE, -2);
-        d.due("FULL", DutyDesk.FULL, -3);
-        d.due("STATE", DutyDesk.STATE, -4);
+    private final Due d = new Due();
+    private final Set<String> methods = new TreeSet<>();
+    private final Set<String> names = new HashSet<>();
+    private final Map<String, Integer> constants = new TreeMap<>();
 
+    public static void main(String[] args) throws IOException, IllegalAccessException {
+        FaceTest test = new FaceTest();
+        test.readDocument();
+        test.theClass();
+        test.theMethods();
+        test.theConstants();
+        test.theClassesInside();
+        test.d.finish();
+    }
+
+    private void readDocument() throws IOException {
+        List<String> lines = Files.readAllLines(Path.of("../shared/DOC.md"));
+        int first = lines.indexOf("```java") + 1;
+        int last = first + lines.subList(first, lines.size()).indexOf("```");
+        for (String line : lines.subList(first, last)) {
+            Matcher method = METHOD.matcher(line);
+            Matcher constant = CONSTANT.matcher(line);
+            if (method.matches()) {
+                names.add(method.group(1));
+                methods.add(method.group(1) + "(" + method.group(2).replaceAll("(int|boolean) \\w+", "$1").replace(", ", ",") + ")");
+            } else if (constant.matches()) {
+                constants.put(constant.group(1), Integer.valueOf(constant.group(2)));
+            } else {
+                d.holds("a line of the face is understood: " + line, OTHERS.contains(line));
+            }
+        }
+        d.due("methods in the document", methods.size(), 27);
+        d.due("constants in the document", constants.size(), 4);
+    }
+
+    private void theClass() {
+        d.holds("the class is public and final", Modifier.isPublic(FACE.getModifiers()) && Modifier.isFinal(FACE.getModifiers()));
+        Constructor<?>[] made = FACE.getDeclaredConstructors();
+        d.holds("one public constructor without arguments",
+            made.length == 1 && made[0].getParameterCount() == 0 && Modifier.isPublic(made[0].getModifiers()));
+    }
+
+    private void theMethods() {
         Set<String> found = new TreeSet<>();
-        Set<String> names = new HashSet<>();
-        for (Method m : face.getDeclaredMethods()) {
+        for (Method m : FACE.getDeclaredMethods()) {
             if (!Modifier.isPrivate(m.getModifiers())) {
                 found.add(told(m));
-                names.add(m.getName());
                 d.holds(m.getName() + " answers an int", m.getReturnType() == int.class);
                 d.holds(m.getName() + " is public, of the object", Modifier.isPublic(m.getModifiers()) && !Modifier.isStatic(m.getModifiers()));
             }
         }
-        d.holds("the methods are the document's: " + found, found.equals(new TreeSet<>(Arrays.asList(METHODS))));
-
-        Set<String> constants = new TreeSet<>();
-        for (Field f : face.getDeclaredFields()) {
-            if (!Modifier.isPrivate(f.getModifiers())) {
-                constants.add(f.getName());
-            }
-            d.holds(f.getName() + ": static fields are final", !Modifier.isStatic(f.getModifiers()) || Modifier.isFinal(f.getModifiers()));
-        }
-        d.holds("the constants are the document's: " + constants,
-            constants.equals(new TreeSet<>(Arrays.asList("NONE", "RANGE", "FULL", "STATE"))));
-
-        Constructor<?>[] made = face.getDeclaredConstructors();
-        d.holds("one public constructor without arguments",
-            made.length == 1 && made[0].getParameterCount() == 0 && Modifier.isPublic(made[0].getModifiers()));
-
-        for (Class<?> inside : face.getDeclaredClasses()) {
-            d.holds(inside.getName() + " is static and not public",
-                Modifier.isStatic(inside.getModifiers()) && !Modifier.isPublic(inside.getModifiers()));
-        }
-        privateNames(d, face, names);
-        for (Class<?> inside : face.getDeclaredClasses()) {
-            privateNames(d, inside, names);
-        }
-        d.finish();
+        d.holds("the methods are the document's: " + found, found.equals(methods));
     }
 
-    private static void privateNames(Due d, Class<?> in, Set<String> names) {
+    private void theConstants() throws IllegalAccessException {
+        Map<String, Integer> found = new TreeMap<>();
+        for (Field f : FACE.getDeclaredFields()) {
+            if (!Modifier.isPrivate(f.getModifiers())) {
+                d.holds(f.getName() + " is a public constant", Modifier.isPublic(f.getModifiers()) && Modifier.isStatic(f.getModifiers()));
+                found.put(f.getName(), f.getInt(null));
+            }
+        }
+        d.holds("the constants are the document's: " + found, found.equals(constants));
+    }
+
+    private void theClassesInside() {
+        noPublicName(FACE);
+        for (Class<?> inside : FACE.getDeclaredClasses()) {
+            d.holds(inside.getName() + " is static and not public",
+                Modifier.isStatic(inside.getModifiers()) && !Modifier.isPublic(inside.getModifiers())
+                    && !Modifier.isProtected(inside.getModifiers()));
+            noPublicName(inside);
+        }
+    }
+
+    private void noPublicName(Class<?> in) {
         for (Method m : in.getDeclaredMethods()) {
             d.holds(in.getName() + "." + m.getName() + " bears no public name",
                 !Modifier.isPrivate(m.getModifiers()) || !names.contains(m.getName()));
